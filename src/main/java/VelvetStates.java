@@ -149,18 +149,15 @@ public final class VelvetStates {
     }
 
     public int text(int sort) {
-        if (fault(sort) != NONE) {
-            return NONE;
-        }
-        if (sort == SORT_ROOM) {
+        if (sort == SORT_ROOM && roomReader.read(tape, bytes, spare) == NONE) {
             bytes = 0;
             return enterSpare();
         }
-        if (laws.known >= MOST_LAWS) {
-            return NONE;
+        if (sort == SORT_LAW && laws.known < MOST_LAWS && lawReader.read(tape, bytes) == NONE) {
+            bytes = 0;
+            return laws.add(lawReader.code, lawReader.steps);
         }
-        bytes = 0;
-        return laws.add(lawReader.code, lawReader.steps);
+        return NONE;
     }
 
     private int enterSpare() {
@@ -435,13 +432,9 @@ public final class VelvetStates {
         return scene.year;
     }
 
-    private int age(Scene aged) {
-        shine(aged);
-        return aged.wear(light.bright);
-    }
-
     private void liveYear() {
-        int fell = age(scene);
+        shine(scene);
+        int fell = scene.wear(light.bright);
         shine(scene);
         past.note(scene.year, statesOf(scene), light.sum(room.squares), fell);
     }
@@ -629,7 +622,8 @@ public final class VelvetStates {
         }
         trial.follow(scene);
         for (int year = 1; year <= YEARS_LOOKED_AHEAD; year++) {
-            int fell = age(trial);
+            shine(trial);
+            int fell = trial.wear(light.bright);
             if (fell != 0) {
                 return what == 0 ? lowest(fell) : year;
             }
@@ -643,7 +637,8 @@ public final class VelvetStates {
         }
         trial.follow(scene);
         for (int i = 0; i < n; i++) {
-            age(trial);
+            shine(trial);
+            trial.wear(light.bright);
         }
         return scene.fabricOfAll() - trial.fabricOfAll();
     }
@@ -1460,30 +1455,27 @@ public final class VelvetStates {
                 int step = code[at] >> STEP_SHIFT;
                 int with = code[at] & STEP_MASK;
                 at++;
-                if (step == STEP_ANSWER) {
-                    return pop();
-                }
-                if (step != STEP_SKIP) {
-                    follow(step, with);
-                } else if (pop() == 0) {
-                    at = with;
+                switch (step) {
+                    case STEP_NUMBER:
+                        push(with);
+                        break;
+                    case STEP_LETTER:
+                        push(with < LAW_LETTERS ? letters[with] : 0);
+                        break;
+                    case STEP_SKIP:
+                        at = pop() == 0 ? with : at;
+                        break;
+                    case STEP_ANSWER:
+                        return pop();
+                    case '!':
+                        push(1 - pop());
+                        break;
+                    default:
+                        int right = pop();
+                        push(put(step, pop(), right));
                 }
             }
             return 0;
-        }
-
-        private void follow(int step, int with) {
-            if (step == STEP_NUMBER) {
-                push(with);
-            } else if (step == STEP_LETTER) {
-                push(within(with, 0, LAW_LETTERS - 1) ? letters[with] : 0);
-            } else if (step == '!') {
-                push(1 - pop());
-            } else {
-                int right = pop();
-                int left = pop();
-                push(put(step, left, right));
-            }
         }
 
         private static int put(int step, int left, int right) {
@@ -1510,7 +1502,10 @@ public final class VelvetStates {
         }
 
         private static int held(long number) {
-            return (int) Math.max(-MOST_NUMBER, Math.min(MOST_NUMBER, number));
+            if (number > MOST_NUMBER) {
+                return MOST_NUMBER;
+            }
+            return number < -MOST_NUMBER ? -MOST_NUMBER : (int) number;
         }
 
         private void push(int value) {
