@@ -143,6 +143,12 @@ public final class RoomPromisesTest {
         worth("y:!(v=8|v=7)?11;y:12", 12);
         worth("y:v+1=2*4?11;y:12", 11);
         worth("y : [ v + 1 ] * 2 = 16 ? 11", 11);
+        worth("y:1+[1+[1+[1+[1+[1+[1+2*3]]]]]]", 13);
+        worth("y:v=8|v=7&(v=8|v=7&(v=1|v=7&(v=2|v=7&(v=3|v=7&(v=4|v=7&(v=5|v=7&1+2*3=7))))))?11;y:12", 11);
+        worth("y:v=8|v=7&(v=8|v=7&(v=1|v=7&(v=2|v=7&(v=3|v=7&(v=4|v=7&(v=5|v=7&1+2*3=8))))))?11;y:12", 12);
+        worth("y:" + "1+".repeat(57) + "1", 58);
+        worth("y:" + "1-".repeat(118) + "1", 1);
+        worth("y:v=1?1;".repeat(29) + "y:77", 77);
     }
 
     private static void states() {

@@ -120,6 +120,10 @@ public final class TextPromisesTest {
         String ten = "ca0;ca1;ca2;ca4;ca5;ca6;ca8;ca9;ca10;cd1;";
         check.fault(0, ten + "p", -1);
         check.fault(0, ten + "c", ten.length());
+        String all = ten + "p;p;p;p;p;p;s";
+        check.fault(0, all, -1);
+        check.fault(0, all + " ; ", all.length() + 3);
+        check.fault(0, all + " ; c", all.length() + 3);
     }
 
     private static void roomBounds() {
@@ -208,6 +212,10 @@ public final class TextPromisesTest {
         check.fault(1, "y:!!!!!!v=[1]?2", 10);
         check.fault(1, "y:!!!!!!v=1&!!!!!!k=1?[[[[[[2]]]]]]", -1);
         check.fault(1, "y:(((v=1)))&[[[[[[v]]]]]]=1?2", -1);
+        check.fault(1, "y:" + "1+".repeat(118) + "12", -1);
+        check.fault(1, "y:" + "1+".repeat(119), 240);
+        check.fault(1, "y:1;".repeat(59) + "y:12", -1);
+        check.fault(1, "y:1;".repeat(60), 240);
     }
 
     private static void becomingRoom() {
