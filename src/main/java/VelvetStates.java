@@ -338,6 +338,16 @@ public final class VelvetStates {
         return found;
     }
 
+    private int besides(int square) {
+        int found = 0;
+        for (int c = 0; c < room.curtains; c++) {
+            if (room.near[c] == square || room.far[c] == square) {
+                found |= 1 << c;
+            }
+        }
+        return found;
+    }
+
     // ---- ACTS
 
     private int refuse(int reason) {
@@ -748,16 +758,6 @@ public final class VelvetStates {
         return found;
     }
 
-    private int besides(int square) {
-        int found = 0;
-        for (int c = 0; c < room.curtains; c++) {
-            if (room.near[c] == square || room.far[c] == square) {
-                found |= 1 << c;
-            }
-        }
-        return found;
-    }
-
     private boolean fits(int persons, int k) {
         if (Integer.bitCount(persons) != k) {
             return false;
@@ -1061,19 +1061,39 @@ public final class VelvetStates {
         }
     }
 
+    /** What reading a ROOM and reading a LAW have in common. */
+    private abstract static class Reader {
+        int[] tape = new int[0];
+        int length = 0;
+        int at = 0;
+
+        final void begin(int[] bytes, int count) {
+            tape = bytes;
+            length = Math.min(count, bytes.length);
+            at = 0;
+        }
+
+        /** The next sign behind blanks, NONE at the end. */
+        final int peek() {
+            while (at < length && tape[at] == ' ') {
+                at++;
+            }
+            return at < length ? tape[at] : NONE;
+        }
+
+        static boolean isDigit(int sign) {
+            return sign >= '0' && sign <= '9';
+        }
+    }
+
     /** Reads the tape as a ROOM. */
-    private static final class RoomReader {
-        private int[] tape = new int[0];
-        private int length = 0;
-        private int at = 0;
+    private static final class RoomReader extends Reader {
         private boolean ruled = false;
         private Room room = new Room();
         private final int[] item = new int[ITEMS];
 
         int read(int[] bytes, int count, Room into) {
-            tape = bytes;
-            length = Math.min(count, bytes.length);
-            at = 0;
+            begin(bytes, count);
             ruled = false;
             room = into;
             room.clear();
@@ -1092,13 +1112,6 @@ public final class VelvetStates {
                 at++;
             }
             return at;
-        }
-
-        private int peek() {
-            while (at < length && tape[at] == ' ') {
-                at++;
-            }
-            return at < length ? tape[at] : NONE;
         }
 
         private boolean isFree(int sign) {
@@ -1185,25 +1198,16 @@ public final class VelvetStates {
         }
     }
 
-    private static boolean isDigit(int sign) {
-        return sign >= '0' && sign <= '9';
-    }
-
     /** Reads the tape as a LAW, and writes its steps so that a LAW is read once and used often. */
-    private static final class LawReader {
-        private int[] tape = new int[0];
-        private int length = 0;
-        // Where reading stands; when it fails, this is the FAULT.
-        private int at = 0;
+    private static final class LawReader extends Reader {
         final int[] code = new int[MOST_BYTES];
         int steps = 0;
 
         int read(int[] bytes, int count) {
-            tape = bytes;
-            length = Math.min(count, bytes.length);
-            at = 0;
+            begin(bytes, count);
             steps = 0;
             for (int clause = 0; clause < MOST_BYTES; clause++) {
+                // Reading stops at the first sign that does not fit, so where it stands is the FAULT.
                 if (!readClause()) {
                     return at;
                 }
@@ -1215,13 +1219,6 @@ public final class VelvetStates {
                 }
             }
             return at;
-        }
-
-        private int peek() {
-            while (at < length && tape[at] == ' ') {
-                at++;
-            }
-            return at < length ? tape[at] : NONE;
         }
 
         private boolean take(int sign) {
