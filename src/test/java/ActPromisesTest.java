@@ -1,5 +1,3 @@
-import java.math.BigInteger;
-
 /** Promises 14 to 23: pull, go, creep, mend, years, heat, centuries, status, undo, log. */
 public final class ActPromisesTest {
     private static final Check check = new Check();
@@ -216,17 +214,6 @@ public final class ActPromisesTest {
         status(x, 0, 0, 0, 0, 0);
     }
 
-    private static int[] draws(long seed, int... of) {
-        BigInteger round = BigInteger.ONE.shiftLeft(64);
-        BigInteger x = BigInteger.valueOf(seed).mod(round);
-        int[] found = new int[of.length];
-        for (int i = 0; i < of.length; i++) {
-            x = x.multiply(new BigInteger("6364136223846793005")).add(new BigInteger("1442695040888963407")).mod(round);
-            found[i] = x.shiftRight(33).mod(BigInteger.valueOf(of[i])).intValue();
-        }
-        return found;
-    }
-
     private static void centuriesByHand() {
         VelvetStates x = new VelvetStates();
         check.due("20: no ROOM", x.centuries(1, 1), -1);
@@ -243,10 +230,10 @@ public final class ActPromisesTest {
         for (long seed = -40; seed < 40; seed++) {
             VelvetStates x = Check.room("sw2h2l0m0;c;cd1o1;ca1d1k1;p;pc3");
             x.heat(40);
-            int[] drawn = draws(seed, 100, 3, 2, 4);
+            int[] drawn = Draws.by(seed, 100, 3, 2, 4);
             boolean hot = drawn[0] < 40;
             if (hot) {
-                drawn = draws(seed, 100, 2, 4, 1);
+                drawn = Draws.by(seed, 100, 2, 4, 1);
             }
             int opened = hot ? 7 : 2 ^ 1 << drawn[1];
             int person = drawn[hot ? 1 : 2];
@@ -272,7 +259,7 @@ public final class ActPromisesTest {
 
     private static void heatOnFallen() {
         long cold = 0;
-        while (draws(cold, 100)[0] < 99) {
+        while (Draws.by(cold, 100)[0] < 99) {
             cold++;
         }
         VelvetStates x = Check.room("sw2h1l0;ck1;p");
@@ -281,7 +268,7 @@ public final class ActPromisesTest {
         check.due("20: a FALLEN one: nothing", x.curtain(0, 5), 0);
         x.heat(99);
         long hot = 0;
-        while (draws(hot, 100)[0] == 99) {
+        while (Draws.by(hot, 100)[0] == 99) {
             hot++;
         }
         x.centuries(1, hot);
@@ -292,7 +279,7 @@ public final class ActPromisesTest {
     private static void noCurtains() {
         for (long seed = 0; seed < 20; seed++) {
             VelvetStates x = Check.room("sw5h4;p;p;p");
-            int[] drawn = draws(seed, 100, 3, 20);
+            int[] drawn = Draws.by(seed, 100, 3, 20);
             x.centuries(1, seed);
             check.due("20: no draw of CURTAINS, seed " + seed, x.person(drawn[1], 0), drawn[2]);
         }
