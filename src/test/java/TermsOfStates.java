@@ -309,10 +309,35 @@ final class TermsOfStates {
         s.due("undo(), no more", y.undo(), -1);
         s.due("count(6), the first sixty stay", y.count(6), 60);
         s.due("count(13), LOG, too", y.count(13), 60);
+        undoneWithAll();
         VelvetStates z = Worlds.aged("sw2h1l0;ck99;p", 5);
         z.undo();
         s.due("count(13), LOG, too", z.count(13), 4);
         s.due("log(4, 0), LOG, too", z.log(4, 0), -1);
+    }
+
+    /** With ten CURTAINS and six PERSONS each one is as it was, UNDONE or by an IMAGE. */
+    private void undoneWithAll() {
+        VelvetStates x = Check.room("sw5h2l0m3;ca0o1k11;ca1k12;ca2k13o1;ca3k14;ca5k15;ca6k16o1;ca7k17;ca8k18;cd1k19;ca4d1k20o1"
+            + ";pc4;pc5;pc6;pc7;pc8;pc9");
+        x.image();
+        x.centuries(30, 4);
+        for (int way = 0; way < 2; way++) {
+            for (int i = 0; i < 30 && way == 0; i++) {
+                x.undo();
+            }
+            if (way == 1) {
+                x.centuries(30, 5);
+                x.back();
+            }
+            for (int c = 0; c < 10; c++) {
+                s.due("curtain(" + c + ", 3), as it was", x.curtain(c, 3), 11 + c);
+            }
+            for (int p = 0; p < 6; p++) {
+                s.due("person(" + p + ", 0), as it was", x.person(p, 0), 4 + p);
+            }
+            s.due("gathered(), as it was", x.gathered(), 1 + 4 + 32 + 512);
+        }
     }
 
     private void statuses() {

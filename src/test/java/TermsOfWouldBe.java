@@ -259,6 +259,8 @@ final class TermsOfWouldBe {
         restsByGames("sw5h1;ca3;ca1;pc0m2;pc4m5", 0);
         restsByGames("sw5h3;ca0;ca1;ca2o1;ca3;cd1;ca1d1o1;ca2d1;ca3d1;ca4d1;p;pc14", 0);
         restsByGames("sw5h3;ca0;ca1;ca2o1;ca3;cd1;ca1d1o1;ca2d1;ca3d1;ca4d1;ca9d1o1;pc2m5;pc14m4;pm6", 0);
+        restsByGames("sw5h4;ca0o1;ca1o1;ca2o1;ca3o1;ca10o1;ca11o1;ca12o1;ca13o1;ca16o1;ca17o1;pc6;pc8m9", 0);
+        restsByGames("sw5h2;ca0;ca1;ca2;ca3;ca5;ca6;ca7;ca8;cd1;ca4d1;pc2;pc7", 0);
         VelvetStates none = Check.room("p;p");
         s.due("rests(0, 1, -1), no CURTAINS", none.rests(0, 1, -1), 1);
         s.due("rests(0, 1, 0), no CURTAINS", none.rests(0, 1, 0), 0);
@@ -352,6 +354,8 @@ final class TermsOfWouldBe {
         VelvetStates x = Check.room("sw4h1;ca0;ca1;ca2;p;pc1;pc2;pc3");
         s.due("sure(1), none in all", x.sure(1), 0);
         s.due("sure(3), none in all", x.sure(3), 0);
+        s.due("sure(1), the one or the other", Check.room("sw2h1;c;p;pc1").sure(1), 0);
+        s.due("sure(1), the only one", Check.room("sw2h1;c;p").sure(1), 1);
         s.due("best(1), 2 and 2, of several the lowest", x.best(1), 0);
         x.faded(0, true);
         x.faded(2, true);
